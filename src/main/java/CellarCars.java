@@ -104,7 +104,7 @@ public final class CellarCars {
         if (!garage.hasLane(lane)) {
             return refuse(BEYOND);
         }
-        if (!garage.isLift(lane)) {
+        if (!garage.isOfKind(lane, Garage.LIFT)) {
             return refuse(KIND);
         }
         keepForUndo();
@@ -777,8 +777,9 @@ public final class CellarCars {
             return false;
         }
 
-        boolean isLift(int lane) {
-            return isOfKind(lane, LIFT);
+        /** What a car that comes to a lane or leaves it adds to the lane's cycles. */
+        private int cycleOf(int lane) {
+            return laneKind[lane] == LIFT || laneKind[lane] == TOWER ? 1 : 0;
         }
 
         int bears(int lane) {
@@ -850,14 +851,14 @@ public final class CellarCars {
             places[lane * MOST_CARS + standing[lane]] = car;
             standing[lane]++;
             where[car] = lane;
-            countCycle(lane, 1);
+            cycles[lane] += cycleOf(lane);
         }
 
         void take(int car) {
             int lane = where[car];
             standing[lane]--;
             where[car] = NO;
-            countCycle(lane, 1);
+            cycles[lane] += cycleOf(lane);
         }
 
         void move(int car, int lane) {
@@ -865,18 +866,12 @@ public final class CellarCars {
             bring(car, lane);
         }
 
-        /** A search takes back its own shunt, so its cycles count no more. */
+        /** A search takes back its own shunt: neither that one's cycles nor this one's count. */
         void moveBack(int car, int from) {
             int lane = where[car];
             move(car, from);
-            countCycle(lane, -2);
-            countCycle(from, -2);
-        }
-
-        private void countCycle(int lane, int n) {
-            if (isLift(lane)) {
-                cycles[lane] += n;
-            }
+            cycles[lane] -= 2 * cycleOf(lane);
+            cycles[from] -= 2 * cycleOf(from);
         }
 
         int forgetCycles() {

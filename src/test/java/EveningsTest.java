@@ -72,6 +72,9 @@ public final class EveningsTest {
         CHECK.due("one", x.plan(), 0);
         x.arrive(1);
         CHECK.due("two, the later at the front", x.plan(), 2);
+        x.tell(1, 0, 1);
+        CHECK.due("two that leave at one hour", x.plan(), 0);
+        x.tell(1, 0, 2);
         x.lane(0, 6, 9, 99);
         CHECK.due("two lanes", x.plan(), 0);
         x.arrive(2);

@@ -116,6 +116,28 @@ public final class PortersRulesTest {
         CHECK.due("the unharmed look went out", x.harm(1, 2, 9999), Check.NONE);
         CHECK.due("undone", x.undo(), 15);
         CHECK.due("it is led again", x.harm(1, 2, 9999), 9999);
+        CellarCars y = desk();
+        for (int i = 0; i < 50; i++) {
+            y.look(0, i % 2 == 0);
+        }
+        y.look(1, false);
+        shunts(y, 1, 0, 1);
+        y.look(1, true);
+        CHECK.due("one shunt", y.harm(1, 0, 99), 99);
+        y.look(1, false);
+        shunts(y, 1, 0, 2);
+        shunts(y, 1, 3, 1);
+        y.look(1, true);
+        for (int i = 0; i < 53; i++) {
+            CHECK.due("porter 0, while older ones go out", y.harm(1, 0, 100), 67);
+            CHECK.due("porter 3, while older ones go out", y.harm(1, 3, 100), 33);
+            y.look(0, false);
+        }
+        CHECK.due("the first of them stays to the last", y.harm(1, 0, 100), 67);
+        y.look(0, false);
+        y.look(0, false);
+        y.look(0, false);
+        CHECK.due("it went out", y.harm(1, 0, 100), Check.NONE);
     }
 
     private static void text() {
@@ -173,9 +195,13 @@ public final class PortersRulesTest {
             CHECK.due("lets beyond", x.lets(a[0], a[1], a[2]), Check.BEYOND);
         }
         int[][] let = {{11}, {33}, {10, 11, 40}, {12, 12, 41}, {10, 42}, {12, 33, 43}, {10, 33, 44},
-            {33, 10, 44}, {33, 33, 44}};
+            {33, 10, 44}, {33, 33, 44}, {10, 42, 11, 41}, {10, 12, 40, 11, 41}, {12, 12, 43, 11, 41},
+            {12, 12, 44, 11, 41}, {12, 12, 41, 11, 41}, {10, 10, 10, 11, 12, 40, 44, 44, 44},
+            {10, 11, 10, 10, 10, 43, 44, 44, 44}, {11, 12, 13, 14, 15, 43, 43, 43, 43}};
         int[][] notLet = {{10}, {11, 10, 40}, {11, 11, 40}, {11, 12, 41}, {33, 42}, {10, 11, 43},
-            {11, 10, 43}, {10, 10, 44}, {11, 11}, {42, 11}, {11, 11, 11, 11, 11, 11}};
+            {11, 10, 43}, {10, 10, 44}, {11, 11}, {42, 11}, {11, 11, 11, 11, 11, 11},
+            {10, 10, 10, 12, 11, 40, 44, 44, 44}, {11, 12, 13, 14, 10, 43, 43, 43, 43},
+            {11, 42, 11, 41}};
         for (int i = 0; i < let.length; i++) {
             rule(x, let[i]);
             CHECK.due("text that lets " + i, x.lets(0, 1, 0), 1);

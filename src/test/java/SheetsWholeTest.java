@@ -222,6 +222,14 @@ public final class SheetsWholeTest {
         x.night();
         x.undo();
         CHECK.due("the hour is back behind a night", x.hour(1), 1);
+        x.arrive(0);
+        x.clear();
+        x.arrive(1);
+        x.undo();
+        x.undo();
+        CHECK.due("the evening is back", x.arrive(2), Check.TAKEN);
+        CHECK.due("with both of its cars", x.arrive(0), Check.TAKEN);
+        CHECK.due("and no other", x.arrive(1), 3);
     }
 
     private static void all() {
