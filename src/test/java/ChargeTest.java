@@ -22,6 +22,7 @@ public final class ChargeTest {
 
     private static void chargers() {
         CHECK.promise(25);
+        CHECK.words("CHARGERS: how many there were. BEYOND.");
         CellarCars x = new CellarCars();
         CHECK.due("chargers(3)", x.chargers(3), 1);
         CHECK.due("chargers(4)", x.chargers(4), Check.BEYOND);
@@ -32,6 +33,7 @@ public final class ChargeTest {
 
     private static void charged() {
         CHECK.promise(26);
+        CHECK.words("CHARGED, as bits.");
         CHECK.due("hours below its hour", desk(new int[] {5, 5}).charged(), 1);
         CHECK.due("one hour too few", desk(new int[] {5, 6}).charged(), 0);
         CHECK.due("no need", desk(new int[] {5, 0}).charged(), 0);
@@ -62,6 +64,7 @@ public final class ChargeTest {
 
     private static void charging() {
         CHECK.promise(27);
+        CHECK.words("Which CARS are charged in an hour by THE HOURS, as bits. BEYOND.");
         CellarCars x = desk(new int[] {3, 1}, new int[] {3, 2}, new int[] {23, 2});
         CHECK.due("charging(24)", x.charging(24), Check.BEYOND);
         CHECK.due("charging(-1)", x.charging(-1), Check.BEYOND);

@@ -11,19 +11,26 @@ final class Check {
     static final int BARRED = -100009;
 
     private int promise = 0;
+    private String words = "";
     private int asked = 0;
     private int wrong = 0;
 
     /** What follows tests this promise of the document. */
     void promise(int number) {
         promise = number;
+        words = "";
+    }
+
+    /** What follows tests these words of the document (DocumentTest looks whether they stand there). */
+    void words(String quoted) {
+        words = ", \"" + quoted + "\"";
     }
 
     void due(String call, int got, int want) {
         asked++;
         if (got != want) {
             wrong++;
-            System.out.println("promise " + promise + ": " + call + " answered " + got + ", due is " + want);
+            System.out.println("promise " + promise + words + ": " + call + " answered " + got + ", due is " + want);
         }
     }
 
@@ -36,6 +43,11 @@ final class Check {
         if (wrong != 0 || asked == 0) {
             System.exit(1);
         }
+    }
+
+    /** Tells a run of calls on a new object (see Run.told). */
+    Run run(String text) {
+        return new Run(this).told(text);
     }
 
     /** Sets a sheet of 32 bits to these numbers. */

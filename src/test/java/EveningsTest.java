@@ -35,6 +35,7 @@ public final class EveningsTest {
 
     private static void arrive() {
         CHECK.promise(21);
+        CHECK.words("A CAR arrives behind those of THE EVENING: how many.");
         CellarCars x = new CellarCars();
         x.lane(0, 30, 9, 99);
         Check.cars(x, 3, 1, 1, 1, 1, 1, 1, 1, 1);
@@ -102,6 +103,7 @@ public final class EveningsTest {
 
     private static void planned() {
         CHECK.promise(24);
+        CHECK.words("The LANE of a CAR by THE PLAN.");
         CellarCars x = new CellarCars();
         x.lane(0, 6, 9, 99);
         x.lane(0, 6, 9, 99);

@@ -20,6 +20,7 @@ public final class FloodKeysTest {
 
     private static void flood() {
         CHECK.promise(38);
+        CHECK.words("MINUTE of a LANE becomes v: what it was. BEYOND.");
         CellarCars x = new CellarCars();
         x.lane(0, 9, 9, 99);
         x.lane(2, 9, 9, 99);
@@ -43,6 +44,7 @@ public final class FloodKeysTest {
 
     private static void pace() {
         CHECK.promise(39);
+        CHECK.words("PACE becomes v: what it was. BEYOND.");
         CellarCars x = new CellarCars();
         CHECK.due("pace(1)", x.pace(1), 10);
         CHECK.due("pace(30)", x.pace(30), 1);
@@ -63,6 +65,7 @@ public final class FloodKeysTest {
 
     private static void rescue() {
         CHECK.promise(40);
+        CHECK.words("WORTH of THE RESCUE.");
         CellarCars x = new CellarCars();
         CHECK.due("nobody", x.rescue(), 0);
         x.lane(0, 9, 9, 99);
@@ -89,6 +92,7 @@ public final class FloodKeysTest {
 
     private static void rescued() {
         CHECK.promise(41);
+        CHECK.words("The CAR that is taken as number i (from 0 on) by THE RESCUE.");
         CellarCars x = new CellarCars();
         x.lane(0, 9, 9, 99);
         x.lane(0, 9, 9, 99);
@@ -135,6 +139,7 @@ public final class FloodKeysTest {
 
     private static void key() {
         CHECK.promise(43);
+        CHECK.words("KEY of a CAR in an hour, as known behind so many NOTES: 1, 0.");
         CellarCars x = new CellarCars();
         Check.cars(x, 1, 1, 1);
         CHECK.due("none without notes", x.key(0, 23, 0), 0);

@@ -47,6 +47,7 @@ public final class LanesCarsTest {
 
     private static void lane() {
         CHECK.promise(2);
+        CHECK.words("A new LANE: its number.");
         CellarCars x = new CellarCars();
         int[][] beyond = {{-1, 1, 1, 1}, {4, 1, 1, 1}, {0, 0, 1, 1}, {0, 31, 1, 1}, {0, 1, 0, 1},
             {0, 1, 31, 1}, {0, 1, 1, 0}, {0, 1, 1, 100}, {Integer.MIN_VALUE, 1, 1, 1},
@@ -67,6 +68,7 @@ public final class LanesCarsTest {
 
     private static void as() {
         CHECK.promise(3);
+        CHECK.words("A LANE as one of a kind: its number.");
         CellarCars x = new CellarCars();
         boolean[][] isOf = {{true, false, false, false}, {true, true, false, false},
             {true, false, true, false}, {true, true, false, true}};
@@ -88,6 +90,8 @@ public final class LanesCarsTest {
 
     private static void laneIs() {
         CHECK.promise(4);
+        CHECK.words("Of a LANE: 0 its kind, 1 LENGTH, 2 HEIGHT, 3 what a car may weigh, 4 how many CARS, 5 "
+            + "LENGTH that is left, 6 CYCLES this night, 7 whether BROKEN (1, 0).");
         CellarCars x = new CellarCars();
         x.lane(3, 9, 7, 41);
         x.lane(1, 12, 8, 41);
@@ -117,6 +121,7 @@ public final class LanesCarsTest {
 
     private static void breaks() {
         CHECK.promise(5);
+        CHECK.words("A LIFT is BROKEN, or no more: 1 if that is new, else 0. BEYOND.");
         CellarCars x = new CellarCars();
         for (int kind = 0; kind < 4; kind++) {
             x.lane(kind, 5, 5, 5);
@@ -160,6 +165,8 @@ public final class LanesCarsTest {
 
     private static void carIs() {
         CHECK.promise(7);
+        CHECK.words("Of a CAR: 0 LENGTH, 1 HEIGHT, 2 WEIGHT, 3 HOUR, 4 NEED, 5 WORTH, 6 its LANE (-1: OUT, "
+            + "no finding), 7 how many CARS are ahead of it (0 if OUT).");
         CellarCars x = new CellarCars();
         x.lane(0, 30, 30, 99);
         x.lane(0, 30, 30, 99);
@@ -186,6 +193,7 @@ public final class LanesCarsTest {
 
     private static void tell() {
         CHECK.promise(8);
+        CHECK.words("HOUR (which 0), NEED (1), WORTH (2) of a CAR becomes v: what it was. BEYOND.");
         CellarCars x = new CellarCars();
         x.car(1, 2, 3, 4, 5, 6);
         x.car(1, 2, 3, 4, 5, 6);
@@ -209,6 +217,7 @@ public final class LanesCarsTest {
 
     private static void at() {
         CHECK.promise(9);
+        CHECK.words("The CAR at place i (from 0, behind, on) of a LANE.");
         CellarCars x = new CellarCars();
         x.lane(0, 30, 30, 99);
         x.lane(0, 30, 30, 99);
@@ -229,6 +238,7 @@ public final class LanesCarsTest {
 
     private static void fits() {
         CHECK.promise(10);
+        CHECK.words("Whether a CAR FITS a LANE (ROOM is not asked): 1, 0. BEYOND.");
         CellarCars x = new CellarCars();
         x.lane(0, 1, 5, 20);
         x.lane(3, 9, 9, 41);

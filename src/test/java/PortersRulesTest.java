@@ -40,6 +40,7 @@ public final class PortersRulesTest {
 
     private static void porter() {
         CHECK.promise(32);
+        CHECK.words("A PORTER is ON: who was. BEYOND.");
         CellarCars x = new CellarCars();
         CHECK.due("porter(3)", x.porter(3), 0);
         CHECK.due("porter(4)", x.porter(4), Check.BEYOND);
@@ -50,6 +51,7 @@ public final class PortersRulesTest {
 
     private static void look() {
         CHECK.promise(33);
+        CHECK.words("A LOOK at a CAR: how many SHUNTS and LOOKS are led. BEYOND.");
         CellarCars x = desk();
         CHECK.due("look(2, true)", x.look(2, true), Check.BEYOND);
         CHECK.due("look(-1, true)", x.look(-1, true), Check.BEYOND);
@@ -68,6 +70,7 @@ public final class PortersRulesTest {
 
     private static void harm() {
         CHECK.promise(34);
+        CHECK.words("What a PORTER has of a sum for HARM of a CAR.");
         CellarCars x = desk();
         CHECK.due("no looks", x.harm(1, 0, 100), Check.NONE);
         x.look(1, true);
@@ -142,6 +145,7 @@ public final class PortersRulesTest {
 
     private static void text() {
         CHECK.promise(35);
+        CHECK.words("The text becomes the numbers of a sheet: how many.");
         CellarCars x = desk();
         CHECK.due("text(4)", x.text(4), Check.BEYOND);
         CHECK.due("text(-1)", x.text(-1), Check.BEYOND);
@@ -173,6 +177,7 @@ public final class PortersRulesTest {
 
     private static void wrong() {
         CHECK.promise(36);
+        CHECK.words("Whether the text is RIGHT: -1 (no finding; of an empty one, too);");
         CellarCars x = desk();
         CHECK.due("empty", x.wrong(), -1);
         int[][] texts = {{10}, {40}, {42}, {10, 40}, {10, 11, 40}, {10, 11}, {10, 11, 12, 13, 14},
@@ -187,6 +192,7 @@ public final class PortersRulesTest {
 
     private static void lets() {
         CHECK.promise(37);
+        CHECK.words("Whether a CAR's SHUNT to a LANE is LET in an hour: 1, 0. BEYOND.");
         CellarCars x = desk();
         CHECK.due("an empty text lets all", x.lets(0, 1, 23), 1);
         CHECK.due("to its own lane too", x.lets(0, 0, 23), 1);

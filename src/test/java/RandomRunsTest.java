@@ -9,16 +9,11 @@ import java.util.Random;
  * it tries other runs: the first one's number, and how many; a third word asks how often each was called.
  */
 public final class RandomRunsTest {
-    private static final String[] NAMES = {"lane", "as", "laneIs", "breaks", "car", "carIs", "tell", "at",
-        "fits", "park", "shunt", "leave", "night", "hour", "ahead", "fewest", "step", "proves", "morning",
-        "arrive", "clear", "plan", "planned", "chargers", "charged", "charging", "bid", "given", "rent",
-        "giving", "porter", "look", "harm", "text", "wrong", "lets", "flood", "pace", "rescue", "rescued",
-        "note", "key", "sheet", "put", "copy", "undo", "all"};
     private static final int[] EDGES = {-1, -2, Integer.MIN_VALUE, Integer.MAX_VALUE, 4, 5, 7, 8, 9, 10, 16,
         20, 21, 23, 24, 30, 31, 99, 100, 200, 201, 999, 1000, 9999, 10000};
     private static final int[] BITS = {8, 8, 16, 32, 0};
     private final Random random;
-    private final int[] likely = new int[NAMES.length];
+    private final int[] likely = new int[Calls.NAMES.length];
     private final int[] a = new int[6];
     private final boolean cramped;
     private final Model model = new Model();
@@ -30,32 +25,28 @@ public final class RandomRunsTest {
         for (int i = 0; i < likely.length; i++) {
             likely[i] = 1 + random.nextInt(6);
         }
-        likely[number("lane")] = 1;
-        likely[number("car")] = 1;
-        likely[number("park")] = 4 + random.nextInt(20);
-        likely[number("undo")] = random.nextInt(12);
-    }
-
-    private static int number(String name) {
-        return Arrays.asList(NAMES).indexOf(name);
+        likely[Calls.number("lane")] = 1;
+        likely[Calls.number("car")] = 1;
+        likely[Calls.number("park")] = 4 + random.nextInt(20);
+        likely[Calls.number("undo")] = random.nextInt(12);
     }
 
     public static void main(String[] args) {
         long first = args.length > 1 ? Long.parseLong(args[0]) : 1;
         long count = args.length > 1 ? Long.parseLong(args[1]) : 150;
-        int[] fine = new int[NAMES.length];
-        int[] found = new int[NAMES.length];
+        int[] fine = new int[Calls.NAMES.length];
+        int[] found = new int[Calls.NAMES.length];
         int wrong = 0;
         for (long seed = first; seed < first + count && wrong < 5; seed++) {
             wrong += new RandomRunsTest(seed).run(seed, fine, found) ? 0 : 1;
         }
-        for (int i = 0; i < NAMES.length; i++) {
+        for (int i = 0; i < Calls.NAMES.length; i++) {
             if (args.length > 2) {
-                System.out.println(NAMES[i] + ": " + fine[i] + " without a finding, " + found[i] + " with one");
+                System.out.println(Calls.NAMES[i] + ": " + fine[i] + " without a finding, " + found[i] + " with one");
             }
             if (fine[i] == 0 && count >= 50) {
                 wrong++;
-                System.out.println(NAMES[i] + " was never called without a finding");
+                System.out.println(Calls.NAMES[i] + " was never called without a finding");
             }
         }
         System.out.println(count + " runs, " + wrong + " not as due");
@@ -70,8 +61,8 @@ public final class RandomRunsTest {
         for (int n = 0; n < 512; n++) {
             int which = next(n);
             int due = model.call(which, a);
-            int got = call(x, which, a);
-            told.append(NAMES[which]).append(Arrays.toString(a)).append(" = ").append(got).append('\n');
+            int got = Calls.make(x, which, a);
+            told.append(Calls.NAMES[which]).append(Arrays.toString(a)).append(" = ").append(got).append('\n');
             if (got != due) {
                 System.out.println("run " + seed + ", call " + n + ", due is " + due + "\n" + told);
                 return false;
@@ -91,14 +82,14 @@ public final class RandomRunsTest {
             System.arraycopy(call, 1, a, 0, a.length);
             return call[0];
         }
-        int which = n < 12 ? number(n % 3 == 0 ? "lane" : "car") : pick();
+        int which = n < 12 ? Calls.number(n % 3 == 0 ? "lane" : "car") : pick();
         arguments(which, n < 12);
         return which;
     }
 
     private void later(String name, int... arguments) {
         int[] call = new int[7];
-        call[0] = number(name);
+        call[0] = Calls.number(name);
         System.arraycopy(arguments, 0, call, 1, arguments.length);
         soon.add(call);
     }
@@ -138,7 +129,7 @@ public final class RandomRunsTest {
         if (car < 0 || lane < 0) {
             return;
         }
-        int back = model.call(number("carIs"), new int[] {car, 6, 0, 0, 0, 0});
+        int back = model.call(Calls.number("carIs"), new int[] {car, 6, 0, 0, 0, 0});
         later("look", car, random.nextInt(8) == 0 ? 1 : 0);
         for (int i = 0; i < random.nextInt(6); i++) {
             later("porter", random.nextInt(4));
@@ -237,7 +228,7 @@ public final class RandomRunsTest {
     }
 
     private void likelyArguments(int which) {
-        switch (NAMES[which]) {
+        switch (Calls.NAMES[which]) {
             case "lane":
                 set(3, cramped ? 3 : 8, 9, 50);
                 a[1] += cramped ? 2 : 5;
@@ -276,65 +267,6 @@ public final class RandomRunsTest {
             case "copy": set(3, 3, 3, 3, 3); break;
             case "all": set(6); break;
             default: set(7); break;
-        }
-    }
-
-    private static int call(CellarCars x, int which, int[] a) {
-        boolean first = (a[1] & 1) == 1;
-        switch (NAMES[which]) {
-            case "lane": return x.lane(a[0], a[1], a[2], a[3]);
-            case "as": return x.as(a[0], a[1]);
-            case "laneIs": return x.laneIs(a[0], a[1]);
-            case "breaks": return x.breaks(a[0], first);
-            case "car": return x.car(a[0], a[1], a[2], a[3], a[4], a[5]);
-            case "carIs": return x.carIs(a[0], a[1]);
-            case "tell": return x.tell(a[0], a[1], a[2]);
-            case "at": return x.at(a[0], a[1]);
-            case "fits": return x.fits(a[0], a[1]);
-            case "park": return x.park(a[0], a[1]);
-            case "shunt": return x.shunt(a[0], a[1]);
-            case "leave": return x.leave(a[0]);
-            case "night": return x.night();
-            case "hour": return x.hour(a[0]);
-            case "ahead": return x.ahead(a[0]);
-            case "fewest": return x.fewest(a[0]);
-            case "step": return x.step(a[0], a[1]);
-            case "proves": return x.proves(a[0], a[1]);
-            case "morning": return x.morning(a[0]);
-            case "arrive": return x.arrive(a[0]);
-            case "clear": return x.clear();
-            case "plan": return x.plan();
-            case "planned": return x.planned(a[0]);
-            case "chargers": return x.chargers(a[0]);
-            case "charged": return x.charged();
-            case "charging": return x.charging(a[0]);
-            default: return callLater(x, which, a);
-        }
-    }
-
-    private static int callLater(CellarCars x, int which, int[] a) {
-        switch (NAMES[which]) {
-            case "bid": return x.bid(a[0], a[1], a[2]);
-            case "given": return x.given(a[0]);
-            case "rent": return x.rent(a[0]);
-            case "giving": return x.giving();
-            case "porter": return x.porter(a[0]);
-            case "look": return x.look(a[0], (a[1] & 1) == 1);
-            case "harm": return x.harm(a[0], a[1], a[2]);
-            case "text": return x.text(a[0]);
-            case "wrong": return x.wrong();
-            case "lets": return x.lets(a[0], a[1], a[2]);
-            case "flood": return x.flood(a[0], a[1]);
-            case "pace": return x.pace(a[0]);
-            case "rescue": return x.rescue();
-            case "rescued": return x.rescued(a[0]);
-            case "note": return x.note(a[0], a[1], (a[2] & 1) == 1);
-            case "key": return x.key(a[0], a[1], a[2]);
-            case "sheet": return x.sheet(a[0], a[1], a[2]);
-            case "put": return x.put(a[0], a[1], a[2]);
-            case "copy": return x.copy(a[0], a[1], a[2], a[3], a[4]);
-            case "undo": return x.undo();
-            default: return x.all(a[0]);
         }
     }
 }

@@ -34,6 +34,7 @@ public final class RentsTest {
 
     private static void given() {
         CHECK.promise(29);
+        CHECK.words("The PLACE of a TENANT by THE GIVING. BEYOND.");
         CellarCars x = new CellarCars();
         for (int tenant = 0; tenant < 5; tenant++) {
             CHECK.due("without bids", x.given(tenant), tenant);
@@ -49,6 +50,7 @@ public final class RentsTest {
 
     private static void rent() {
         CHECK.promise(30);
+        CHECK.words("RENT. BEYOND.");
         CellarCars x = new CellarCars();
         CHECK.due("without bids", x.rent(0), 0);
         bids(x, new int[][] {{10, 4}, {8, 3}});

@@ -14,6 +14,7 @@ public final class SheetsWholeTest {
 
     private static void sheet() {
         CHECK.promise(44);
+        CHECK.words("A sheet has n numbers, all 0, of 8, 16 or 32 bits;");
         CellarCars x = new CellarCars();
         CHECK.due("sheet(4, 8, 1)", x.sheet(4, 8, 1), Check.BEYOND);
         CHECK.due("sheet(-1, 8, 1)", x.sheet(-1, 8, 1), Check.BEYOND);

@@ -20,6 +20,7 @@ public final class ShuntsTest {
 
     private static void park() {
         CHECK.promise(11);
+        CHECK.words("A CAR comes to the FRONT of a LANE: how many CARS are there.");
         CellarCars x = new CellarCars();
         x.lane(0, 6, 5, 20);
         x.lane(1, 6, 5, 20);
@@ -184,6 +185,7 @@ public final class ShuntsTest {
 
     private static void hour() {
         CHECK.promise(15);
+        CHECK.words("The hour becomes v (0 to 23): what it was. BEYOND.");
         CellarCars x = new CellarCars();
         CHECK.due("hour(23)", x.hour(23), 0);
         CHECK.due("hour(24)", x.hour(24), Check.BEYOND);
@@ -194,6 +196,7 @@ public final class ShuntsTest {
 
     private static void ahead() {
         CHECK.promise(16);
+        CHECK.words("Sets are told by bits.");
         CellarCars x = new CellarCars();
         x.lane(0, 30, 9, 99);
         Check.cars(x, 3, 5, 7, 9, 1);
@@ -211,6 +214,8 @@ public final class ShuntsTest {
 
     private static void fewest() {
         CHECK.promise(17);
+        CHECK.words("How many SHUNTS FEWEST for a CAR has (KEYS in the hour that it is; RULES are not "
+            + "asked).");
         CellarCars x = new CellarCars();
         x.lane(0, 9, 9, 99);
         x.lane(0, 3, 9, 99);
@@ -307,6 +312,7 @@ public final class ShuntsTest {
 
     private static void step() {
         CHECK.promise(18);
+        CHECK.words("SHUNT i of FEWEST.");
         CellarCars x = new CellarCars();
         x.lane(0, 9, 9, 99);
         x.lane(0, 9, 9, 99);
