@@ -97,7 +97,8 @@ public final class BoundsTest {
         lanes("breaks(#, true)");
         lanes("breaks(#, false)");
         CHECK.promise(6);
-        CHECK.words("CARS 0, 1, .. (at most 8) have a LENGTH (1 to 9), a HEIGHT (1 to 30), a WEIGHT (1 to 99), an HOUR at which "
+        CHECK.words("CARS 0, 1, .. (at most 8) have a LENGTH (1 to 9), a HEIGHT (1 to 30), a WEIGHT (1 to 99), "
+            + "an HOUR at which "
             + "they leave (0 to 23), NEED of so many hours of charge (0 to 9), a WORTH (0 to 99).");
         bounds("car(#, 5, 5, 5, 5, 5)", 1, 9, "BEYOND");
         bounds("car(5, #, 5, 5, 5, 5)", 1, 30, "BEYOND");
@@ -223,7 +224,8 @@ public final class BoundsTest {
 
     /** One number that is no sign, at the first and at the last place of a text, by each kind of sheet. */
     private static void signs() {
-        CHECK.words("1 the hour, 2 LENGTH of the CAR, 3 its WEIGHT, 4 the LANE, 5 the LANE'S kind, 6 the PORTER who is ON; "
+        CHECK.words("1 the hour, 2 LENGTH of the CAR, 3 its WEIGHT, 4 the LANE, 5 the LANE'S kind, 6 the PORTER "
+            + "who is ON; "
             + "10 to 33: 0 to 23; 40: the last but one and the last become 1 if the first is less, else 0");
         String[] noSigns = {"0", "7", "8", "9", "34", "35", "38", "39", "45", "46", "-1", "127", "128", "255"};
         for (int bits = 8; bits <= 32; bits *= 2) {
@@ -235,7 +237,8 @@ public final class BoundsTest {
             }
             int[] signs = {1, 2, 3, 4, 5, 6, 10, 11, 32, 33, 40, 41, 42, 43, 44};
             for (int v : signs) {
-                CHECK.run("sheet(3, " + bits + ", 1); put(3, 0, " + v + "); text(3) = 1; wrong() = " + (v < 40 ? -1 : 0));
+                CHECK.run("sheet(3, " + bits + ", 1); put(3, 0, " + v + "); text(3) = 1; wrong() = "
+                    + (v < 40 ? -1 : 0));
             }
         }
     }
@@ -313,7 +316,8 @@ public final class BoundsTest {
                 CHECK.run("sheet(1, " + bits + ", 1); put(1, 0, " + (A_SIGN + more) + ") = 0; text(1) = "
                     + (lost ? "1" : "BEYOND"));
             }
-            CHECK.run("sheet(1, " + bits + ", 1); put(1, 0, MAX) = 0; text(1) = BEYOND; put(1, 0, MIN) = 0; text(1) = BEYOND");
+            CHECK.run("sheet(1, " + bits + ", 1); put(1, 0, MAX) = 0; text(1) = BEYOND; put(1, 0, MIN) = 0; "
+                + "text(1) = BEYOND");
         }
     }
 
@@ -357,7 +361,8 @@ public final class BoundsTest {
     private static void nothingThere() {
         CHECK.promise(1);
         CHECK.words("No LANES, no CARS; hour 0; all else as told; sheets MISSING.");
-        String[] calls = {"as(0, 0)", "laneIs(0, 0)", "breaks(0, true)", "carIs(0, 0)", "tell(0, 0, 0)", "at(0, 0)",
+        String[] calls = {"as(0, 0)", "laneIs(0, 0)", "breaks(0, true)", "carIs(0, 0)", "tell(0, 0, 0)",
+            "at(0, 0)",
             "fits(0, 0)", "park(0, 0)", "shunt(0, 0)", "leave(0)", "ahead(0)", "fewest(0)", "step(0, 0)",
             "proves(0, 0)", "morning(0)", "arrive(0)", "planned(0)", "look(0, false)", "harm(0, 0, 0)",
             "lets(0, 0, 0)", "flood(0, 0)", "note(0, 0, true)", "key(0, 0, 0)"};
@@ -381,7 +386,8 @@ public final class BoundsTest {
 
     /** With five lanes and eight cars the last of each is there, and no more can come. */
     private static void allThere() {
-        String desk = "lane(0, 9, 9, 99); lane(1, 9, 9, 99); lane(2, 9, 9, 99); lane(3, 9, 9, 99); lane(0, 9, 9, 99) = 4\n"
+        String desk = "lane(0, 9, 9, 99); lane(1, 9, 9, 99); lane(2, 9, 9, 99); lane(3, 9, 9, 99); "
+            + "lane(0, 9, 9, 99) = 4\n"
             + "car(1, 1, 1, 0, 0, 0)\n".repeat(7) + "car(1, 1, 1, 9, 2, 3) = 7\n";
         CHECK.promise(2);
         CHECK.words("FULL: there are 5.");
@@ -390,10 +396,12 @@ public final class BoundsTest {
         CHECK.words("FULL: there are 8.");
         REFUSED.due(desk, "car(1, 1, 1, 0, 0, 0)", "FULL");
         CHECK.run(desk + """
-            laneIs(4, 1) = 9; as(4, 0) = 4; flood(4, 7) = 100; carIs(7, 3) = 9; tell(7, 0, 8) = 9; note(7, 0, true) = 1
+            laneIs(4, 1) = 9; as(4, 0) = 4; flood(4, 7) = 100; carIs(7, 3) = 9; tell(7, 0, 8) = 9
+            note(7, 0, true) = 1
             fits(7, 4) = 1; park(7, 4) = 1; at(4, 0) = 7; ahead(7) = 0; fewest(7) = 0; lets(7, 4, 0) = 1
             key(7, 0, 1) = 1; charged() = 128; rescued(0) = NONE; arrive(7) = 1; planned(7) = 0; look(7, true) = 1
-            morning(4) = 0; shunt(7, 3) = 1; shunt(7, 4) = 2; park(6, 4) = 2; fewest(7) = NONE; leave(6) = 0; leave(7) = 8
+            morning(4) = 0; shunt(7, 3) = 1; shunt(7, 4) = 2; park(6, 4) = 2; fewest(7) = NONE; leave(6) = 0
+            leave(7) = 8
             """);
         REFUSED.due(desk, "laneIs(5, 0)", "BEYOND");
         REFUSED.due(desk, "carIs(8, 0)", "BEYOND");

@@ -30,7 +30,8 @@ final class Check {
         asked++;
         if (got != want) {
             wrong++;
-            System.out.println("promise " + promise + words + ": " + call + " answered " + got + ", due is " + want);
+            System.out.println("promise " + promise + words + ": " + call + " answered " + got + ", due is "
+                + want);
         }
     }
 

@@ -41,7 +41,8 @@ public final class DocumentTest {
     /** Signatures, heads and what the interface says ahead of calls promise nothing that could be quoted. */
     private static String plain(String text) {
         return text.replaceAll("(?m)^#+ Promise.*$", "").replaceAll("(?m)^Ahead of the calls.*$", "")
-            .replaceAll("`[^`\n]*`:?", "").replaceAll("(?m)^```.*$", "").replaceAll("(?m)^\\d+\\. ", "").replaceAll("\\s+", " ");
+            .replaceAll("`[^`\n]*`:?", "").replaceAll("(?m)^```.*$", "").replaceAll("(?m)^\\d+\\. ",
+                "").replaceAll("\\s+", " ");
     }
 
     private static List<String> quotes() throws IOException {

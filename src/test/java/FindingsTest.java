@@ -23,7 +23,8 @@ public final class FindingsTest {
 
     public static void main(String[] args) {
         numbers();
-        CHECK.words("Each act tells its findings in the order in which they are asked; an act that answers a finding changes nothing.");
+        CHECK.words("Each act tells its findings in the order in which they are asked; an act that answers a "
+            + "finding changes nothing.");
         lanesAndCars();
         parkInOrder();
         shuntInOrder();
@@ -36,7 +37,8 @@ public final class FindingsTest {
     }
 
     private static void numbers() {
-        CHECK.words("FINDINGS are answers below -99999: -100001 BEYOND, -100002 MISSING, -100003 SIZE, -100004 KIND, "
+        CHECK.words("FINDINGS are answers below -99999: -100001 BEYOND, -100002 MISSING, -100003 SIZE, -100004 "
+            + "KIND, "
             + "-100005 FULL, -100006 NONE, -100007 TAKEN, -100008 STUCK, -100009 BARRED.");
         CHECK.run("""
             lane(9, 9, 9, 9) = -100001; text(0) = -100002; sheet(0, 8, -1) = -100003; undo() = -100006
@@ -52,14 +54,16 @@ public final class FindingsTest {
         CHECK.promise(2);
         CHECK.words("BEYOND: kind, LENGTH, HEIGHT, LOAD. FULL: there are 5.");
         String full = lanes + "lane(0, 5, 5, 5) = 4";
-        for (String call : new String[] {"lane(4, 5, 5, 5)", "lane(-1, 5, 5, 5)", "lane(0, 0, 5, 5)", "lane(0, 31, 5, 5)",
+        for (String call : new String[] {"lane(4, 5, 5, 5)", "lane(-1, 5, 5, 5)", "lane(0, 0, 5, 5)", "lane(0, "
+            + "31, 5, 5)",
             "lane(0, 5, 0, 5)", "lane(0, 5, 31, 5)", "lane(0, 5, 5, 0)", "lane(0, 5, 5, 100)"}) {
             REFUSED.due(full, call, "BEYOND");
         }
         REFUSED.due(full, "lane(3, 30, 30, 99)", "FULL");
         CHECK.promise(3);
         CHECK.words("BEYOND: no such LANE, or kind. KIND: it is not of that kind, nor of one under it.");
-        String[] others = {"as(0, 1)", "as(0, 2)", "as(0, 3)", "as(1, 2)", "as(1, 3)", "as(2, 1)", "as(2, 3)", "as(3, 2)"};
+        String[] others = {"as(0, 1)", "as(0, 2)", "as(0, 3)", "as(1, 2)", "as(1, 3)", "as(2, 1)", "as(2, 3)",
+            "as(3, 2)"};
         for (String call : others) {
             REFUSED.due(lanes, call, "KIND");
         }
@@ -67,14 +71,16 @@ public final class FindingsTest {
         REFUSED.due(lanes, "as(4, 4)", "BEYOND");
         CHECK.promise(5);
         CHECK.words("KIND: it is no LIFT.");
-        for (String call : new String[] {"breaks(0, true)", "breaks(0, false)", "breaks(2, true)", "breaks(2, false)"}) {
+        for (String call : new String[] {"breaks(0, true)", "breaks(0, false)", "breaks(2, true)", "breaks(2, "
+            + "false)"}) {
             REFUSED.due(lanes, call, "KIND");
         }
         REFUSED.due(lanes, "breaks(4, true)", "BEYOND");
         CHECK.promise(6);
         CHECK.words("A new CAR, OUT: its number. BEYOND. FULL: there are 8.");
         String cars = "car(1, 1, 1, 0, 0, 0)\n".repeat(8);
-        for (String call : new String[] {"car(0, 1, 1, 0, 0, 0)", "car(10, 1, 1, 0, 0, 0)", "car(1, 0, 1, 0, 0, 0)",
+        for (String call : new String[] {"car(0, 1, 1, 0, 0, 0)", "car(10, 1, 1, 0, 0, 0)", "car(1, 0, 1, 0, 0, "
+            + "0)",
             "car(1, 31, 1, 0, 0, 0)", "car(1, 1, 0, 0, 0, 0)", "car(1, 1, 100, 0, 0, 0)", "car(1, 1, 1, -1, 0, 0)",
             "car(1, 1, 1, 24, 0, 0)", "car(1, 1, 1, 0, -1, 0)", "car(1, 1, 1, 0, 10, 0)", "car(1, 1, 1, 0, 0, -1)",
             "car(1, 1, 1, 0, 0, 100)"}) {
@@ -125,7 +131,8 @@ public final class FindingsTest {
                     String desk = laneThere(stuck, misfit, full) + "lane(0, 9, 9, 99)\n"
                         + "car(3, 4, 20, 9, 1, 7); car(1, 1, 1, 0, 0, 0)\n"
                         + stuckThere(stuck, 0) + (taken ? "park(0, 1)\n" : "");
-                    answers(desk, "park(0, 0)", "1", first(PARK_ORDER, taken, misfit != 0, stuck != NOT_STUCK, full));
+                    answers(desk, "park(0, 0)", "1", first(PARK_ORDER, taken, misfit != 0, stuck != NOT_STUCK,
+                        full));
                     REFUSED.due(desk, "park(0, 2)", "BEYOND");
                     REFUSED.due(desk, "park(2, 0)", "BEYOND");
                 }
@@ -145,8 +152,10 @@ public final class FindingsTest {
 
     private static void shuntInOrder() {
         CHECK.promise(12);
-        CHECK.words("NONE: it is OUT. TAKEN: it is in that LANE. STUCK: it is not FREE, or the other LANE is BROKEN, "
-            + "or would have more than 12 CYCLES. KIND: it does not FIT. FULL: there is no ROOM. MISSING: there is no KEY. "
+        CHECK.words("NONE: it is OUT. TAKEN: it is in that LANE. STUCK: it is not FREE, or the other LANE is "
+            + "BROKEN, "
+            + "or would have more than 12 CYCLES. KIND: it does not FIT. FULL: there is no ROOM. MISSING: there "
+            + "is no KEY. "
             + "BARRED: RULES do not let it.");
         for (int rest = 0; rest < 16; rest++) {
             boolean full = (rest & 1) != 0;
@@ -166,7 +175,8 @@ public final class FindingsTest {
         }
     }
 
-    /** Car 0 in lane 0 with car 2 behind it, and car 1 ahead of it where that is asked; no length left, or some. */
+    /** Car 0 in lane 0 with car 2 behind it, and car 1 ahead of it where that is asked; no length left,
+        or some. */
     private static String deskHere(int stuck, boolean full) {
         boolean lift = stuck == HERE_BROKEN || stuck == HERE_NO_CYCLES;
         int length = stuck == NOT_AT_FRONT ? 5 : 4;
@@ -183,7 +193,8 @@ public final class FindingsTest {
             + (barred ? "sheet(3, 8, 1); put(3, 0, 10); text(3)\n" : "");
     }
 
-    private static void shuntThere(int stuck, int misfit, boolean full, boolean missing, boolean barred, boolean out) {
+    private static void shuntThere(int stuck, int misfit, boolean full, boolean missing, boolean barred,
+        boolean out) {
         boolean here = stuck >= NOT_AT_FRONT && stuck <= HERE_NO_CYCLES;
         if (out && here) {
             return;
@@ -195,7 +206,8 @@ public final class FindingsTest {
         REFUSED.due(desk, "shunt(0, 2)", "BEYOND");
         boolean canBe = finding.isEmpty() || finding.equals("BARRED");
         CHECK.run(desk + "sheet(0, 8, 1); put(0, 0, 1); sheet(1, 8, 0)\n"
-            + "lane(0, 9, 9, 99); car(1, 1, 1, 0, 0, 0); park(3, 2); proves(3, 1) = -1; proves(3, 0) = " + (canBe ? -1 : 0));
+            + "lane(0, 9, 9, 99); car(1, 1, 1, 0, 0, 0); park(3, 2); proves(3, 1) = -1; proves(3, 0) = "
+            + (canBe ? -1 : 0));
         if (!out) {
             // Car 2 is behind car 0: it is freed by this shunt alone, since there is no other lane.
             CHECK.run(desk + "fewest(2) = " + (canBe ? "1; step(2, 0) = 1" : "NONE; step(2, 0) = NONE"));
@@ -203,7 +215,8 @@ public final class FindingsTest {
     }
 
     private static void going() {
-        String desk = "lane(0, 9, 9, 99); lane(1, 9, 9, 99); car(3, 1, 1, 9, 1, 7); car(3, 1, 1, 8, 1, 7); car(3, 1, 1, 7, 1, 7)\n"
+        String desk = "lane(0, 9, 9, 99); lane(1, 9, 9, 99); car(3, 1, 1, 9, 1, 7); car(3, 1, 1, 8, 1, 7); "
+            + "car(3, 1, 1, 7, 1, 7)\n"
             + "park(0, 0); park(1, 0)\n";
         CHECK.promise(13);
         CHECK.words("A CAR leaves: the HOUR at which it was to. BEYOND. NONE: it is OUT. STUCK: it is not FREE.");
@@ -211,7 +224,8 @@ public final class FindingsTest {
         REFUSED.due(desk, "leave(2)", "NONE");
         REFUSED.due(desk, "leave(0)", "STUCK");
         REFUSED.due(desk + "park(2, 1); breaks(1, true)", "leave(2)", "STUCK");
-        REFUSED.due(desk + "park(2, 1); leave(2)\n".repeat(5) + "tell(1, 0, 3); leave(1); park(2, 1); park(1, 1)", "leave(1)",
+        REFUSED.due(desk + "park(2, 1); leave(2)\n".repeat(5) + "tell(1, 0, 3); leave(1); park(2, 1); "
+            + "park(1, 1)", "leave(1)",
             "STUCK");
         CHECK.promise(16);
         CHECK.words("Which CARS are ahead of a CAR in its LANE, as bits. BEYOND. NONE: it is OUT.");
@@ -270,12 +284,17 @@ public final class FindingsTest {
         String desk = "lane(0, 9, 9, 99); lane(0, 9, 9, 99); car(1, 1, 1, 0, 0, 0); car(1, 1, 1, 0, 0, 0)\n"
             + "note(0, 0, true); park(0, 0)\n";
         CHECK.promise(34);
-        CHECK.words("BEYOND: no such CAR, PORTER, or sum. NONE: there are no such LOOKS, or no SHUNT of it between them.");
-        String[] none = {"", "look(0, true)", "look(0, false)", "look(0, true); look(0, false)", "look(0, false); look(0, true)",
-            "look(0, false); shunt(0, 1)", "shunt(0, 1); look(0, true)", "look(0, true); shunt(0, 1); look(0, false)",
-            "shunt(0, 1); look(0, false); look(0, true); shunt(0, 0)", "look(1, false); shunt(0, 1); look(0, true)",
+        CHECK.words("BEYOND: no such CAR, PORTER, or sum. NONE: there are no such LOOKS, or no SHUNT of it "
+            + "between them.");
+        String[] none = {"", "look(0, true)", "look(0, false)", "look(0, true); look(0, false)", "look(0, "
+            + "false); look(0, true)",
+            "look(0, false); shunt(0, 1)", "shunt(0, 1); look(0, true)", "look(0, true); shunt(0, 1); "
+            + "look(0, false)",
+            "shunt(0, 1); look(0, false); look(0, true); shunt(0, 0)", "look(1, false); shunt(0, 1); "
+            + "look(0, true)",
             "look(0, false); shunt(0, 1); look(1, true)", "look(0, true); shunt(0, 1); look(0, true)",
-            "look(0, false); shunt(0, 1); look(0, true); look(0, false)",
+            "look(0, false); shunt(0, 1); look(0, true); look(0, false)", "look(0, false); look(0, true); "
+            + "shunt(0, 1); look(0, true)",
             "look(0, false); shunt(0, 1); look(0, true); look(0, false); look(0, true)"};
         for (String led : none) {
             REFUSED.due(desk + led, "harm(0, 0, 100)", "NONE");
@@ -313,7 +332,8 @@ public final class FindingsTest {
     private static void sheets() {
         CHECK.promise(44);
         CHECK.words("BEYOND: no such sheet, or bits. SIZE: n is below 0. BEYOND: n is above 20.");
-        String desk = "lane(0, 9, 9, 99); car(1, 1, 1, 0, 0, 0); sheet(0, 8, 3); put(0, 0, 1); put(0, 1, 14); put(0, 2, 40)\n"
+        String desk = "lane(0, 9, 9, 99); car(1, 1, 1, 0, 0, 0); sheet(0, 8, 3); put(0, 0, 1); put(0, 1, 14); "
+            + "put(0, 2, 40)\n"
             + "sheet(1, 8, 1); put(1, 0, 11); sheet(2, 16, 1); put(2, 0, 12)\n";
         REFUSED.due(desk, "sheet(4, 7, -1)", "BEYOND");
         REFUSED.due(desk, "sheet(4, 8, -1)", "BEYOND");

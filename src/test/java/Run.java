@@ -66,7 +66,8 @@ final class Run {
         seeEach(seen, "given(#)", 0, 4);
         seeEach(seen, "rent(#)", 0, 4);
         seeEach(seen, "rescued(#)", 0, make("all(2)"));
-        for (String call : new String[] {"plan()", "charged()", "giving()", "wrong()", "rescue()", "morning(-1)"}) {
+        for (String call : new String[] {"plan()", "charged()", "giving()", "wrong()", "rescue()",
+            "morning(-1)"}) {
             see(seen, call);
         }
         seeByActs(seen, lanes);
